@@ -24,6 +24,7 @@ public final class ActsTest {
         defsOfDefs();
         inForce();
         bounds();
+        notTold();
         longest();
         CHECK.end();
     }
@@ -156,6 +157,8 @@ public final class ActsTest {
         fault("a 1;", 2, 2);
         fault(";", 2, 0);
         fault("a:1;;", 2, 4);
+        fault(":1;", 2, 0);
+        fault("a:1;:1;", 2, 4);
         fault("1:a;", 2, 0);
         fault("a:-1;", 2, 2);
         fault("a:1+;", 2, 4);
@@ -359,6 +362,10 @@ public final class ActsTest {
         breach("a: 1 / 0; breach: a + 5;", 0);
         breach("a: 1 / 0; breach: 5;", 5);
         breach("breach: if 1 < 2 then 1 / 0 else 5;", 0);
+        breach("breach: 5 + (if 1 < 2 then 1 / 0 else 5);", 0);
+        breach("breach: 5 + (if 2 < 1 then 5 else 1 / 0);", 0);
+        breach("a: if 1 < 2 then 1 / 0 else 5; breach: most(a, 5);", 0);
+        breach("a: if 1 < 2 then 5 else 1 / 0; breach: most(a, 4);", 5);
         // The way that is not gone does not matter.
         breach("breach: if 1 < 2 then 5 else 1 / 0;", 5);
         breach("breach: if 2 < 1 then 1 / 0 else 5;", 5);
@@ -382,6 +389,18 @@ public final class ActsTest {
         CHECK.due("votes that are 0", x.result(0, 0), 0);
         Check.acts(x, "vote: 0;", 0);
         CHECK.due("without such a DEF", x.result(0, 0), 1);
+        PrairiePool y = new PrairiePool();
+        y.farm(0, 1, 0);
+        y.farm(0, 2, 0);
+        y.vote(0, 1);
+        y.vote(1, 0);
+        Check.acts(y, "votes: 1 / (acres - 1);", 0);
+        CHECK.due("one that is none is 1, as the other", y.result(0, 0), 0);
+        Check.acts(y, "votes: 2 / (acres - 1);", 0);
+        CHECK.due("less than 2", y.result(0, 0), 0);
+        y.vote(0, 0);
+        y.vote(1, 1);
+        CHECK.due("2 are more", y.result(0, 0), 1);
     }
 
     private static void tests() {
@@ -465,11 +484,38 @@ public final class ActsTest {
         x.vote(1, 0);
         Check.acts(x, "votes: acres * 1000;", 0);
         CHECK.due("1,000 and 1,000", x.result(0, 0), 0);
+        x.vote(0, 0);
+        x.vote(1, 1);
+        CHECK.due("1,000 and 1,000 the other way", x.result(0, 0), 0);
+        x.vote(0, 1);
+        x.vote(1, 0);
         CHECK.due("like ones", x.hangs(0), -1);
         Check.acts(x, "votes: 0 - acres;", 0);
         CHECK.due("0 and 0", x.result(0, 0), 0);
         Check.acts(x, "votes: 1001 - acres;", 0);
         CHECK.due("1,000 and 999", x.result(0, 0), 1);
+    }
+
+    // What was told ahead, of another thing, is not told any more.
+    private static void notTold() {
+        PrairiePool x = new PrairiePool();
+        x.farm(3, 40, 500);
+        x.elevator(2, 1000);
+        x.sign(0, 0, 9);
+        x.outside(0, 130, 7, 9);
+        x.load(0, 0, 10, 0, 130, 130);
+        Check.acts(x, "first: 1 + week + acres + debt + district + bushels + price + cars + waits + grader; "
+                + "votes: bushels + price + cars + waits + grade + grader; turn: cars + waits; breach: 1 + cars;", 0);
+        x.vote(0, 1);
+        CHECK.due("votes", x.result(0, 130), 0);
+        x.cost(0, 2);
+        x.turns(130, 3, 0);
+        CHECK.due("votes behind breach and turn", x.result(0, 130), 0);
+        x.cost(0, 2);
+        x.turns(130, 3, 0);
+        CHECK.due("first behind breach and turn", x.first(0, 2, 130), 10);
+        x.turns(130, 3, 0);
+        CHECK.due("breach behind turn", x.cost(0, 2), 7);
     }
 
     private static void longest() {

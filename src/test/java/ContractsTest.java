@@ -78,6 +78,20 @@ public final class ContractsTest {
         CHECK.due("SIGNED anew it is LET off still", x.breach(0), 0);
         CHECK.due(x, "let no more", x.let(0, 1, false), true, 0);
         CHECK.due("not LET off", x.breach(0), 1);
+        // All FARMS and all YEARS are apart.
+        PrairiePool y = new PrairiePool();
+        Check.acts(y, "breach: 1;", 0);
+        for (int farm = 0; farm < 20; farm++) {
+            y.farm(0, 1, 0);
+            y.sign(farm, 0, 9);
+            y.outside(farm, farm % 10 * 52, 1, 1);
+            y.outside(farm, (farm + 1) % 10 * 52, 1, 1);
+            y.outside(farm, (farm + 9) % 10 * 52, 1, 1);
+            CHECK.due(y, "let", y.let(farm, farm % 10, true), true, 0);
+        }
+        for (int o = 0; o < 60; o++) {
+            CHECK.due("OUTSIDE " + o, y.breach(o), o % 3 == 0 ? 0 : 1);
+        }
     }
 
     private static void outsides() {

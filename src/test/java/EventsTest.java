@@ -16,6 +16,7 @@ public final class EventsTest {
         gradings();
         grades();
         ranks();
+        rankAsItComes();
         docking();
         room();
         roomComesBack();
@@ -23,6 +24,7 @@ public final class EventsTest {
         partingTies();
         sharesMoveOn();
         taking();
+        placesAreApart();
         regrading();
         asKnown();
         asking();
@@ -266,6 +268,29 @@ public final class EventsTest {
         CHECK.due("least rank", z.grade(0, 0), 2);
     }
 
+    private static void rankAsItComes() {
+        PrairiePool x = pool(1, 1, 1000);
+        Check.acts(x, "rank: 9 - grader;", 0);
+        x.load(0, 0, 1, 0, 0, 0);
+        x.grading(0, 1, 1, 0);
+        CHECK.due("one", x.grade(0, 0), 1);
+        x.grading(0, 0, 2, 0);
+        CHECK.due("of a greater rank", x.grade(0, 0), 2);
+        x.grading(0, 5, 3, 0);
+        CHECK.due("of a lesser rank", x.grade(0, 0), 2);
+        // Where rank is none it is 0.
+        PrairiePool y = pool(1, 1, 1000);
+        Check.acts(y, "rank: if grader = 0 then 1 else if grader = 1 then 1 / 0 else 0;", 0);
+        y.load(0, 0, 1, 0, 0, 0);
+        y.grading(0, 0, 0, 0);
+        y.grading(0, 1, 1, 0);
+        CHECK.due("1 is above none", y.grade(0, 0), 0);
+        y.load(0, 0, 1, 0, 0, 0);
+        y.grading(1, 1, 1, 0);
+        y.grading(1, 2, 2, 0);
+        CHECK.due("none is as 0", y.grade(1, 0), 2);
+    }
+
     private static void docking() {
         PrairiePool x = pool(2, 1, 1000000);
         x.load(0, 0, 999, 1, 0, 0);
@@ -383,6 +408,42 @@ public final class EventsTest {
         CHECK.due("a sale that lacks", x.sum(-1, 4, 0), 22);
         CHECK.due("sold", x.sum(0, 2, 0), 50);
         CHECK.due("an empty port", x.port(0, 5, 0, -1, 0), 0);
+    }
+
+    private static void placesAreApart() {
+        PrairiePool x = pool(2, 8, 1000000);
+        int n = 0;
+        for (int year = 0; year < 10; year += 3) {
+            for (int elevator = 0; elevator < 8; elevator++) {
+                for (int i = 0; i < 3; i++) {
+                    int load = x.load(1, elevator, 1 + n, 0, year * 52, year * 52);
+                    x.grading(load, 0, 2 * i, year * 52);
+                    n++;
+                }
+            }
+        }
+        n = 0;
+        for (int year = 0; year < 10; year++) {
+            for (int elevator = 0; elevator < 8; elevator++) {
+                for (int grade = 0; grade < 6; grade++) {
+                    boolean has = year % 3 == 0 && grade % 2 == 0;
+                    n += has ? 1 : 0;
+                    CHECK.due("BIN " + elevator + " " + grade + " " + year,
+                            x.bin(elevator, grade, year, 1, 519), has ? n : 0);
+                    CHECK.due("of the other FARM", x.bin(elevator, grade, year, 0, 519), 0);
+                }
+            }
+        }
+        x.car(7, 0, 4, 9, 10, 500, 500);
+        x.car(7, 1, 2, 9, 20, 500, 500);
+        for (int port = 0; port < 2; port++) {
+            for (int grade = 0; grade < 6; grade++) {
+                for (int year = 0; year < 10; year++) {
+                    int want = year != 9 ? 0 : port == 0 && grade == 4 ? 10 : port == 1 && grade == 2 ? 20 : 0;
+                    CHECK.due("PORT " + port + " " + grade + " " + year, x.port(port, grade, year, 1, 519), want);
+                }
+            }
+        }
     }
 
     private static void regrading() {

@@ -6,6 +6,7 @@ public final class PaidTest {
         asking();
         came();
         kept();
+        keptOfMore();
         brought();
         parting();
         partingByGrade();
@@ -14,6 +15,7 @@ public final class PaidTest {
         below();
         belowTogether();
         owedByTheBelow();
+        askedFirst();
         regraded();
         large();
         turnsAsked();
@@ -97,8 +99,19 @@ public final class PaidTest {
         Check.acts(x, "held: 100;", 0);
         CHECK.due("rounded down", x.paid(0, 5, 1, 0), 99);
         CHECK.due("LAST", x.last(0, 0, 0), 900);
-        Check.acts(x, "held: 2000;", 0);
+        Check.acts(x, "held: 1001;", 0);
         CHECK.due("no more than all", x.paid(0, 5, 1, 0), 999);
+        x.load(0, 0, 10000, 0, 0, 0);
+        sell(x, 5, 0, 9, 0);
+        CHECK.due("no more than all of much", x.paid(0, 5, 1, 0), 90999);
+        CHECK.due("LAST", x.last(0, 0, 0), 0);
+    }
+
+    private static void keptOfMore() {
+        PrairiePool x = pool(1);
+        x.load(0, 0, 111, 0, 0, 0);
+        sell(x, 5, 0, 9, 0);
+        Check.acts(x, "held: 2000;", 0);
         CHECK.due("LAST", x.last(0, 0, 0), 0);
         Check.acts(x, "held: 0 - 5;", 0);
         CHECK.due("no less than nothing", x.paid(0, 5, 1, 0), 0);
@@ -190,9 +203,17 @@ public final class PaidTest {
         Check.acts(x, "first: 100 + week + bushels + acres + debt + district + price + cars + waits + grader"
                 + " + grade + year;", 103);
         CHECK.due("told are GRADE and YEAR alone", x.first(0, 1, 60), 1060);
-        Check.acts(x, "first: 2; stand: 100 + week + grade + year * 10;", 103);
-        CHECK.due("stand is told the YEAR alone", x.below(1, 1, 60), 2);
-        CHECK.due("BELOW", x.below(1, 0, 60), 20);
+        PrairiePool y = pool(1);
+        y.load(0, 0, 10000, 0, 60, 60);
+        Check.acts(y, "first: 2; stand: 100 + week + grade + year * 10;", 103);
+        CHECK.due("stand is told the YEAR alone", y.below(1, 1, 60), 2200);
+        CHECK.due("BELOW", y.below(1, 0, 60), 20000);
+        Check.acts(y, "first: 2;", 103);
+        CHECK.due("without stand", y.below(1, 1, 60), 0);
+        Check.acts(y, "first: 2; stand: 1001;", 103);
+        CHECK.due("no more than all", y.below(1, 1, 60), 20000);
+        Check.acts(y, "first: 2; stand: 0 - 1;", 103);
+        CHECK.due("no less than nothing", y.below(1, 1, 60), 0);
     }
 
     private static void below() {
@@ -246,6 +267,42 @@ public final class PaidTest {
         CHECK.due("OWED by 0", x.owed(0, 0, 0), 0);
         CHECK.due("OWED by 1", x.owed(1, 0, 0), 33);
         CHECK.due("OWED by 2", x.owed(2, 0, 0), 66);
+    }
+
+    private static PrairiePool poor(int year) {
+        PrairiePool x = pool(2);
+        x.load(0, 0, 10, 0, year * 52, year * 52);
+        x.load(1, 0, 30, 0, year * 52, year * 52);
+        sell(x, 5, year, 2, year * 52);
+        Check.acts(x, "first: 5; stand: 500;", 0);
+        return x;
+    }
+
+    // Each call reckons all by itself, whatever was asked ahead.
+    private static void askedFirst() {
+        CHECK.due("OWED", poor(0).owed(1, 0, 9), 45);
+        CHECK.due("BELOW", poor(0).below(0, 0, 9), 120);
+        CHECK.due("the state", poor(0).below(0, 1, 9), 60);
+        CHECK.due("LAST", poor(0).last(1, 0, 9), -90);
+        CHECK.due("FIRST", poor(0).first(1, 0, 9), 150);
+        CHECK.due("CAME", poor(0).paid(0, 5, 0, 9), 80);
+        CHECK.due("BROUGHT", poor(0).paid(0, 5, 2, 9), 40);
+        PrairiePool x = poor(3);
+        for (int i = 0; i < 2; i++) {
+            CHECK.due("OWED", x.owed(1, 3, 519), 45);
+            CHECK.due("OWED in another YEAR", x.owed(1, 2, 519), 0);
+            CHECK.due("BELOW", x.below(3, 0, 519), 120);
+            CHECK.due("BELOW in another YEAR", x.below(2, 0, 519), 0);
+            CHECK.due("the state", x.below(3, 1, 519), 60);
+            CHECK.due("the state in another YEAR", x.below(2, 1, 519), 0);
+            CHECK.due("LAST", x.last(0, 3, 519), -30);
+            CHECK.due("LAST in another YEAR", x.last(0, 4, 519), 0);
+            CHECK.due("FIRST", x.first(0, 3, 519), 50);
+            CHECK.due("FIRST in another YEAR", x.first(0, 4, 519), 0);
+            CHECK.due("CAME", x.paid(3, 5, 0, 519), 80);
+            CHECK.due("CAME in another YEAR", x.paid(0, 5, 0, 519), 0);
+            CHECK.due("as known ahead", x.owed(1, 3, 155), 0);
+        }
     }
 
     private static void regraded() {
@@ -338,6 +395,12 @@ public final class PaidTest {
         Check.acts(z, "turn: if district = 1 and week + year + acres + debt + bushels + grade + price = 0"
                 + " then 1 / 0 else 0 - 1;", 0);
         cars("none is 0", z, 1, 0, 1);
+        PrairiePool u = waiting(1500, 1500);
+        Check.acts(u, "turn: if district = 0 then 1 / 0 else 1;", 0);
+        cars("none is below 1", u, 1, 0, 1);
+        PrairiePool v = waiting(1500, 1500);
+        Check.acts(v, "turn: if district = 0 then 0 - 999999 - 2 else 0 - 999999 - 1;", 0);
+        cars("least turns are alike", v, 1, 1, 0);
     }
 
     private static void turnsAsKnown() {

@@ -63,10 +63,18 @@ public final class TraysTest {
         // One that is refused leaves the TRAY as it was.
         x.tray(3, 1, 41);
         CHECK.due("read(3, 7) kept", x.read(3, 7), 44);
-        // Longer again: nothing of the old numbers shines through.
+        // Nothing of the old numbers shines through, neither here nor in the TRAY ahead.
+        for (int tray = 2; tray < 4; tray++) {
+            x.tray(tray, 3, 40);
+            for (int place = 0; place < 40; place++) {
+                x.write(tray, place, 100 * tray + place);
+            }
+        }
+        x.tray(3, 3, 5);
         x.tray(3, 3, 40);
         for (int place = 0; place < 40; place++) {
             CHECK.due("read(3, " + place + ")", x.read(3, place), 0);
+            CHECK.due("read(2, " + place + ")", x.read(2, place), 200 + place);
         }
     }
 

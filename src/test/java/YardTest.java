@@ -1,3 +1,6 @@
+import java.util.Random;
+import java.util.stream.LongStream;
+
 /** Promises 39 to 41: bins that warm, and wheat sent to orders. */
 public final class YardTest {
     private static final Check CHECK = new Check("YardTest");
@@ -12,6 +15,7 @@ public final class YardTest {
         sendCosts();
         sendTakesBack();
         sendEdges();
+        sendByChance();
         CHECK.end();
     }
 
@@ -216,7 +220,36 @@ public final class YardTest {
         CHECK.due("full ones", x.send(0, 4, 1, 4, 2), 120);
     }
 
+    private static void sendByChance() {
+        Random chance = new Random(1);
+        PrairiePool x = new PrairiePool();
+        for (int i = 0; i < 4000; i++) {
+            int bins = 1 + chance.nextInt(5);
+            int orders = 1 + chance.nextInt(4);
+            int most = 1 + chance.nextInt(30);
+            int dearest = 1 + chance.nextInt(100);
+            long[] have = chance.longs(bins, 0, most + 1).toArray();
+            long[] want = chance.longs(orders, 0, (most + 1) / 2 + 1).toArray();
+            long[] costs = chance.longs(bins * orders, 0, dearest + 1).toArray();
+            row(x, 0, 2, have);
+            row(x, 1, 2, want);
+            row(x, 2, 2, costs);
+            boolean enough = LongStream.of(have).sum() >= LongStream.of(want).sum();
+            if (enough) {
+                CHECK.due(x, "send", x.send(0, bins, 1, orders, 2), ModelSending.least(have, want, costs), 0);
+            } else {
+                CHECK.refused(x, "send of too little", x.send(0, bins, 1, orders, 2), 9);
+            }
+        }
+    }
+
     private static void sendEdges() {
+        PrairiePool w = new PrairiePool();
+        row(w, 0, 2, 1, 1, 1);
+        row(w, 1, 2, 1, 1, 1);
+        row(w, 2, 2, 1, 1, 1, 1, 1, 1, 1, 1, 101);
+        CHECK.refused(w, "the last cost can't be", w.send(0, 3, 1, 3, 2), 5);
+        CHECK.due(w, "but is not asked", w.send(0, 3, 1, 2, 2), 2, 0);
         PrairiePool x = new PrairiePool();
         row(x, 0, 2, 0, 0);
         row(x, 1, 2, 0, 0);
