@@ -860,6 +860,8 @@ public final class PrairiePool {
         private static final int MOST_DIGITS = 6;
         private static final int MOST_LETTERS = 8;
         private static final int DEEPEST = 8;
+        // A WORD that can be a NAME is held as one number, a letter being a digit of 1 to 26.
+        private static final int PACKING = 27;
 
         // What a TOKEN is: a SIGN is its own byte, and all other kinds are less than these.
         private static final int END = 0;
@@ -957,7 +959,7 @@ public final class PrairiePool {
         private void scanWord() {
             long packed = 0;
             while (at < length && isLetter(tape[at])) {
-                packed = withLetter(packed, tape[at]);
+                packed = packed * PACKING + (tape[at] - 'a' + 1);
                 at++;
             }
             tokenWord = at - tokenPlace <= MOST_LETTERS ? packed : NONE;
@@ -989,10 +991,6 @@ public final class PrairiePool {
             return c > 0 && ":;<>=+-*/%(),".indexOf((char) c) >= 0;
         }
 
-        private static long withLetter(long packed, int letter) {
-            return packed * 27 + (letter - 'a' + 1);
-        }
-
         // Which of some words, told with blanks between them, a packed WORD is.
         private static int find(String words, long packed) {
             int number = 0;
@@ -1000,7 +998,7 @@ public final class PrairiePool {
             for (int i = 0; i < words.length(); i++) {
                 char c = words.charAt(i);
                 if (c != ' ') {
-                    word = withLetter(word, c);
+                    word = word * PACKING + (c - 'a' + 1);
                 } else if (word == packed) {
                     return number;
                 } else {
@@ -1145,7 +1143,8 @@ public final class PrairiePool {
                     advance();
                     break;
                 case WORD:
-                    parseWord();
+                    addWord();
+                    advance();
                     break;
                 case '(':
                     advance();
@@ -1161,15 +1160,13 @@ public final class PrairiePool {
             }
         }
 
-        private void parseWord() {
+        private void addWord() {
             int variable = find(VARIABLES, tokenWord);
             int def = findDef(tokenWord);
             if (variable != NONE) {
                 draft.add(Text.VARIABLE, variable);
-                advance();
             } else if (def != NONE) {
                 draft.add(Text.DEF, def);
-                advance();
             } else {
                 fail(UNKNOWN_WORD);
             }
@@ -1309,14 +1306,14 @@ public final class PrairiePool {
             for (int def = 0; def <= lastDef; def++) {
                 height = 0;
                 for (int place = of.startOf(def); place < of.ends[def]; place++) {
-                    play(of.stepAt(place), of.numberAt(place));
+                    playStep(of.stepAt(place), of.numberAt(place));
                 }
                 values[def] = stack[0];
                 isNone[def] = stackNone[0];
             }
         }
 
-        private void play(int step, int number) {
+        private void playStep(int step, int number) {
             switch (step) {
                 case Text.NUMBER:
                     push(number, false);
@@ -1410,9 +1407,9 @@ public final class PrairiePool {
                 case Text.REMAINDER:
                     return right == 0 ? 0 : left % right;
                 case Text.LEAST:
-                    return Math.min(left, right);
+                    return left < right ? left : right;
                 default:
-                    return Math.max(left, right);
+                    return left > right ? left : right;
             }
         }
     }
@@ -1900,7 +1897,7 @@ public final class PrairiePool {
             return districts > 0;
         }
 
-        /** From the last FARM on, each is left out with whom the fewest would be no more: so the set is the least. */
+        /** From the last FARM on, each that is not needed is left out: so the set is the least. */
         int leastSetThatTurns() {
             int goal = prepareToTurn();
             int lack = fewestToReach(goal);

@@ -7,6 +7,7 @@ public final class ActsTest {
         feeding();
         acting();
         tapeStays();
+        onlyTheFirst();
         faultTells();
         noToken();
         cantStand();
@@ -91,6 +92,24 @@ public final class ActsTest {
         CHECK.due("feed", x.feed(0, 0, 0, 0, 0), 20);
         CHECK.refused(x, "one too many", x.acts(0, 0), 7);
         CHECK.due("feed behind one too many", x.feed(0, 0, 0, 0, 0), 40);
+    }
+
+    // What is behind the first n bytes is no part of the TEXT, not even of its last TOKEN.
+    private static void onlyTheFirst() {
+        cut("a:1;bc:1;", 5, 2, 5);
+        cut("a:1234567;", 8, 2, 8);
+        cut("a:weeks;", 6, 2, 6);
+        cut("a:week;", 5, 6, 2);
+        cut("a:1;$", 4, 0, -1);
+        cut("a:1;  $", 6, 0, -1);
+    }
+
+    private static void cut(String text, int n, int kind, int place) {
+        PrairiePool x = new PrairiePool();
+        Check.feed(x, text);
+        x.acts(n, 0);
+        CHECK.due("FAULT of " + n + " bytes of " + text, x.fault(0), kind);
+        CHECK.due("its place", x.fault(1), place);
     }
 
     private static void faultTells() {

@@ -255,6 +255,7 @@ public final class ContractsTest {
         CHECK.due("WEEK 0", x.alone(0, 0, 5), 3);
         x.load(0, 0, 1, 0, 6, 6);
         CHECK.due("WEEK 1", x.alone(0, 0, 6), 103);
+        CHECK.due("as known ahead", x.alone(0, 0, 5), 3);
         // The price of a WEEK in the YEAR ahead.
         x.price(50, 7);
         x.load(0, 0, 1, 0, 55, 55);

@@ -25,6 +25,7 @@ public final class EventsTest {
         sharesMoveOn();
         taking();
         placesAreApart();
+        asManyPlacesAsEvents();
         regrading();
         asKnown();
         asking();
@@ -353,6 +354,21 @@ public final class EventsTest {
         CHECK.due("left of 1", x.bin(0, 5, 0, 1, 0), 18);
         CHECK.due("left of 2", x.bin(0, 5, 0, 2, 0), 26);
         CHECK.due("left", x.bin(0, 5, 0, -1, 0), 53);
+        // 4 of 6: 0 rest 4, 1 rest 2, 2 rest 0: the one left to who has least.
+        PrairiePool y = pool(3, 1, 1000);
+        y.load(0, 0, 1, 0, 0, 0);
+        y.load(1, 0, 2, 0, 0, 0);
+        y.load(2, 0, 3, 0, 0, 0);
+        y.spoil(0, 5, 0, 4, 0, 0);
+        CHECK.due("spoilt of 0", y.sum(0, 3, 0), 1);
+        CHECK.due("spoilt of 1", y.sum(1, 3, 0), 1);
+        CHECK.due("spoilt of 2", y.sum(2, 3, 0), 2);
+        // One of one.
+        PrairiePool z = pool(3, 1, 1000);
+        z.load(2, 0, 1, 0, 0, 0);
+        z.car(0, 0, 5, 0, 1, 0, 0);
+        z.sale(0, 5, 0, 1, 1, 0, 0);
+        CHECK.due("sold of 2", z.sum(2, 2, 0), 1);
     }
 
     private static void partingTies() {
@@ -444,6 +460,27 @@ public final class EventsTest {
                 }
             }
         }
+    }
+
+    private static void asManyPlacesAsEvents() {
+        PrairiePool x = pool(20, 8, 1000000);
+        for (int i = 0; i < 100; i++) {
+            int week = i / 10 * 52;
+            int load = x.load(19 - i % 20, i % 10 % 8, 10 + i, 0, week, week);
+            x.grading(load, 0, i % 10 / 8, week);
+        }
+        for (int i = 0; i < 20; i++) {
+            CHECK.due(x, "car", x.car(i % 2, i % 2, 0, i / 2, 1 + i, 519, 519), 100 + i, 0);
+        }
+        for (int i = 0; i < 100; i++) {
+            int taken = i % 10 < 2 ? 1 + i / 10 * 2 + i % 10 : 0;
+            CHECK.due("BIN of LOAD " + i, x.bin(i % 10 % 8, i % 10 / 8, i / 10, -1, 519), 10 + i - taken);
+            CHECK.due("of its FARM", x.bin(i % 10 % 8, i % 10 / 8, i / 10, 19 - i % 20, 519), 10 + i - taken);
+        }
+        for (int i = 0; i < 20; i++) {
+            CHECK.due("PORT of CAR " + i, x.port(i % 2, 0, i / 2, -1, 519), 1 + i);
+        }
+        CHECK.due("SHORT", x.sum(-1, 4, 519), 0);
     }
 
     private static void regrading() {

@@ -372,6 +372,7 @@ public final class PaidTest {
         cars("3", x, 3, 0, 1, 2, 0, 0);
         cars("4", x, 4, 0, 1, 2, 1, 0);
         cars("20", x, 20, 0, 1, 2, 1, 16);
+        cars("eight", waiting(0, 0, 0, 0, 0, 0, 0, 5), 20, 0, 0, 0, 0, 0, 0, 0, 1);
     }
 
     private static void turnsByAct() {
