@@ -1426,6 +1426,7 @@ public final class PrairiePool {
         private static final int SLOTS = (ELEVATORS + PORTS) * SLOTS_A_PLACE;
         private static final int CAR_BUSHELS = 1000;
         private static final int UNGRADED = 5;
+        private static final int BELOW_ALL_RANKS = -1000001;
 
         final Prairie prairie;
         final Journal journal;
@@ -1466,7 +1467,7 @@ public final class PrairiePool {
 
         void judge(int known) {
             Arrays.fill(judged, UNGRADED);
-            Arrays.fill(bestRank, Integer.MIN_VALUE);
+            Arrays.fill(bestRank, BELOW_ALL_RANKS);
             for (int number = 0; number < journal.gradings; number++) {
                 int load = journal.gradedLoad[number];
                 int rank = journal.rank[number];

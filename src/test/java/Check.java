@@ -1,8 +1,16 @@
+import java.io.IOException;
+import java.io.UncheckedIOException;
 import java.nio.charset.StandardCharsets;
+import java.nio.file.Files;
+import java.nio.file.Path;
 
 /** Counts answers that are not as due, and ends a test with exit code 1 if there were some. */
 final class Check {
+    private static final Path DOCUMENT = Path.of("../shared/DOC.md");
+
     private final String test;
+    private String document = "";
+    private String sentence = "";
     private int asked;
     private int wrong;
 
@@ -15,13 +23,32 @@ final class Check {
         if (got != want) {
             wrong++;
             if (wrong <= 40) {
-                System.out.println(test + ": " + call + " answered " + got + ", due is " + want);
+                System.out.println(test + ": " + call + " answered " + got + ", due is " + want + sentence);
             }
         }
     }
 
     void due(String call, boolean got, boolean want) {
         due(call, got ? 1 : 0, want ? 1 : 0);
+    }
+
+    /** Tests one sentence of the document: its words must stand there, and are told where it fails. */
+    void says(String words, Runnable tested) {
+        if (document.isEmpty()) {
+            document = read(DOCUMENT).replaceAll("\\s+", " ");
+        }
+        due("the document says: " + words, document.contains(words), true);
+        sentence = "; the document: " + words;
+        tested.run();
+        sentence = "";
+    }
+
+    private static String read(Path path) {
+        try {
+            return Files.readString(path);
+        } catch (IOException e) {
+            throw new UncheckedIOException(e);
+        }
     }
 
     /** An answer, and the STATUS behind it. */
