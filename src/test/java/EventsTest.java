@@ -426,7 +426,8 @@ public final class EventsTest {
         CHECK.due("an empty port", x.port(0, 5, 0, -1, 0), 0);
     }
 
-    private static void placesAreApart() {
+    // LOADS of 1, 2 and so on bushels, in each third YEAR to each ELEVATOR, of GRADES 0, 2 and 4.
+    private static PrairiePool apart() {
         PrairiePool x = pool(2, 8, 1000000);
         int n = 0;
         for (int year = 0; year < 10; year += 3) {
@@ -438,8 +439,14 @@ public final class EventsTest {
                 }
             }
         }
-        n = 0;
+        return x;
+    }
+
+    private static void placesAreApart() {
+        int n = 0;
         for (int year = 0; year < 10; year++) {
+            // An object answers no more than 512 calls.
+            PrairiePool x = apart();
             for (int elevator = 0; elevator < 8; elevator++) {
                 for (int grade = 0; grade < 6; grade++) {
                     boolean has = year % 3 == 0 && grade % 2 == 0;
@@ -450,6 +457,7 @@ public final class EventsTest {
                 }
             }
         }
+        PrairiePool x = apart();
         x.car(7, 0, 4, 9, 10, 500, 500);
         x.car(7, 1, 2, 9, 20, 500, 500);
         for (int port = 0; port < 2; port++) {

@@ -222,8 +222,8 @@ public final class YardTest {
 
     private static void sendByChance() {
         Random chance = new Random(1);
-        PrairiePool x = new PrairiePool();
         for (int i = 0; i < 4000; i++) {
+            PrairiePool x = new PrairiePool();
             int bins = 1 + chance.nextInt(5);
             int orders = 1 + chance.nextInt(4);
             int most = 1 + chance.nextInt(30);
