@@ -828,6 +828,13 @@ public final class PrairiePool {
             }
         }
 
+        void endDef() {
+            if (defs < MOST_DEFS) {
+                ends[defs] = steps;
+                defs++;
+            }
+        }
+
         void copyFrom(Text other) {
             defs = other.defs;
             steps = other.steps;
@@ -919,7 +926,13 @@ public final class PrairiePool {
             draft.empty();
             advance();
             for (int def = 0; def <= Text.MOST_DEFS && token != END && fault == 0; def++) {
-                parseDef();
+                parseName();
+                expect(':');
+                parseWhole(1);
+                expect(';');
+                if (fault == 0) {
+                    draft.endDef();
+                }
             }
             tapeLength = 0;
         }
@@ -980,11 +993,11 @@ public final class PrairiePool {
         }
 
         private static boolean isLetter(int c) {
-            return isIn(c, 'a', 'z');
+            return c >= 'a' && c <= 'z';
         }
 
         private static boolean isDigit(int c) {
-            return isIn(c, '0', '9');
+            return c >= '0' && c <= '9';
         }
 
         private static boolean isSign(int c) {
@@ -1016,17 +1029,6 @@ public final class PrairiePool {
                 advance();
             } else {
                 fail(CANT_STAND);
-            }
-        }
-
-        private void parseDef() {
-            parseName();
-            expect(':');
-            parseWhole(1);
-            expect(';');
-            if (fault == 0) {
-                draft.ends[draft.defs] = draft.steps;
-                draft.defs++;
             }
         }
 
